@@ -402,7 +402,7 @@ public final class WrongClocks {
         long endSpeed = DAY + ender.low;
         long firstStart = starter.partsToWholeMinute(minute) * endSpeed;
         long firstEnd = ender.partsToWholeMinute(minute) * startSpeed;
-        long least = Long.MAX_VALUE;
+        long least = NONE;
         int end = 0;
         for (int i = 0; i < BEGINNINGS; i++) {
             long start = firstStart + i * DAY * endSpeed;
@@ -412,8 +412,9 @@ public final class WrongClocks {
             }
             for (int j = end; j <= end + 1 && j < ENDINGS; j++) {
                 long length = firstEnd + j * DAY * startSpeed - start;
-                if (length > 0) {
-                    least = Math.min(least, Math.abs(length - wanted));
+                long off = Math.abs(length - wanted);
+                if (length > 0 && (least == NONE || off < least)) {
+                    least = off;
                 }
             }
         }
@@ -909,10 +910,10 @@ public final class WrongClocks {
         void weigh() {
             int all = (1 << many) - 1;
             for (int set = Math.min(all, SETS - 1); set >= 0; set--) {
-                int behind = set == all ? 0 : Integer.MAX_VALUE;
+                int behind = NONE;
                 for (int i = 0; i < many; i++) {
-                    if ((set >> i & 1) == 0) {
-                        behind = Math.min(behind, leastBehind(set | 1 << i));
+                    if ((set >> i & 1) == 0 && (behind == NONE || leastBehind(set | 1 << i) < behind)) {
+                        behind = leastBehind(set | 1 << i);
                     }
                 }
                 least[set] = Math.max(behind, errorBehind(set));

@@ -27,7 +27,7 @@ public final class LanguageTest {
     private static final String[] FORBIDDEN = {
         "throw", "throws", "try", "catch", "finally", "synchronized", "assert", "equals", "hashCode", "toString",
         "System", "Thread", "Object", "Exception", "Error", "var", "volatile", "transient", "protected", "native",
-        "addExact", "subtractExact", "multiplyExact", "toIntExact", "random", "strictfp",
+        "addExact", "subtractExact", "multiplyExact", "toIntExact", "random", "strictfp", "MAX_VALUE", "MIN_VALUE",
     };
 
     private LanguageTest() {

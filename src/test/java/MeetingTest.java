@@ -9,6 +9,7 @@ public final class MeetingTest {
     public static void main(String[] args) {
         againOfTwo();
         againOfMore();
+        againOnADay();
         againRefused();
         stopped();
         stoppedRefused();
@@ -56,6 +57,35 @@ public final class MeetingTest {
         againDue(x, 15, 1, 25920);
     }
 
+    /** Clocks told so that all of them stand at 5 on one day; some pairs of them meet ahead of it. */
+    private static void againOnADay() {
+        WrongClocks x = Checks.told("going 0 0 5 120 120;going 1 0 25 127 127;going 2 1440 158 133 133;going 3 2880 363 109 109");
+        againDue(x, 3, 0, 144000);
+        againDue(x, 5, 144001, 1180800);
+        againDue(x, 6, 144001, 316800);
+        againDue(x, 10, 0, 28800);
+        againDue(x, 10, 144001, 201600);
+        againDue(x, 7, 0, 144000);
+        againDue(x, 14, 144001, 316800);
+        againDue(x, 15, 0, 144000);
+        againDue(x, 15, 300000, 1180800);
+        Checks.tell(x, "going 1 0 133 136 136;going 2 0 335 150 150");
+        againDue(x, 3, 0, 53280);
+        againDue(x, 5, 0, 18720);
+        againDue(x, 6, 60000, 571680);
+        againDue(x, 7, 0, 53280);
+        againDue(x, 7, 53281, 571680);
+        Checks.tell(x, "going 1 0 557 144 144;going 2 0 275 210 210");
+        againDue(x, 3, 0, 10080);
+        againDue(x, 5, 60000, 64800);
+        againDue(x, 6, 60000, 226080);
+        againDue(x, 7, 0, 53280);
+        againDue(x, 7, 226081, 398880);
+        Checks.tell(x, "going 2 0 276 210 210");
+        againDue(x, 6, 0, 21840);
+        againDue(x, 7, 0, NONE);
+    }
+
     private static void againDue(WrongClocks x, int set, int minute, int want) {
         Checks.due(16, "again(" + set + ", " + minute + ")", x.again(set, minute), want);
     }
@@ -69,14 +99,23 @@ public final class MeetingTest {
         for (int bad : new int[] {-1, 10000000, Integer.MAX_VALUE, Integer.MIN_VALUE}) {
             againDue(x, 3, bad, OUTSIDE);
         }
-        Checks.tell(x, "gone 1");
+        Checks.tell(x, "gone 1;going 5 0 0 9 9");
         againDue(x, 3, 0, OUTSIDE);
+        againDue(x, 33, 0, 0);
+        Checks.tell(x, "going 0 0 0 0 1");
+        againDue(x, 33, 0, OUTSIDE);
+        Checks.tell(x, "going 7 0 0 9 9;back 6 0 0 9 9;going 0 0 0 9 9");
+        againDue(x, 128 + 32, 0, 0);
+        againDue(x, 64 + 32, 0, OUTSIDE);
     }
 
     private static void stopped() {
         WrongClocks x = Checks.told("stopped 0 5;going 1 0 0 120 120;back 2 0 0 120 120;going 3 0 0 0 240;going 4 4319 6 120 120");
         stoppedDue(x, 0, 1, 6, 5, 3605);
         stoppedDue(x, 0, 2, 6, 715, 4315);
+        Checks.tell(x, "stopped 5 0;stopped 6 719");
+        stoppedDue(x, 5, 1, 6, 0, 3600);
+        stoppedDue(x, 6, 1, 6, 719, 4319);
         stoppedDue(x, 0, 4, 6, 718, 4318);
         // by the greatest rate it comes to 5 behind 60 / 13 MINUTES; at the last MINUTE it can show anything
         Checks.due(17, "the first", x.stopped(0, 3, 1), 5);

@@ -16,8 +16,10 @@ public final class ModelTest {
         this.seed = seed;
     }
 
+    /** Of a number of runs, if it is told: more of them for a longer look. */
     public static void main(String[] args) {
-        for (int run = 0; run < RUNS && Checks.wrongs() < 20; run++) {
+        int runs = args.length == 0 ? RUNS : Integer.parseInt(args[0]);
+        for (int run = 0; run < runs && Checks.wrongs() < 20; run++) {
             new ModelTest(run * 7919L + 1).run();
         }
         Checks.end();
@@ -64,18 +66,22 @@ public final class ModelTest {
         if (any(5) == 0) {
             spoil(text);
         }
-        byte[] bytes = text.toString().getBytes(StandardCharsets.ISO_8859_1);
-        for (int at = 0; at < bytes.length; at += 8) {
-            int n = Math.min(8, bytes.length - at);
-            long packed = Checks.packed(bytes, at, n);
-            same(2, "write " + text, x.write(packed, n), model.write(packed, n));
-        }
+        say(text.toString());
         same(4, "fault() of \"" + text + "\"", x.fault(), model.fault());
         if (any(8) != 0) {
             same(5, "house() of \"" + text + "\"", x.house(), model.house());
         }
         if (any(8) != 0) {
             same(3, "erase()", x.erase(), model.erase());
+        }
+    }
+
+    private void say(String text) {
+        byte[] bytes = text.getBytes(StandardCharsets.ISO_8859_1);
+        for (int at = 0; at < bytes.length; at += 8) {
+            int n = Math.min(8, bytes.length - at);
+            long packed = Checks.packed(bytes, at, n);
+            same(2, "write " + text, x.write(packed, n), model.write(packed, n));
         }
     }
 
@@ -132,7 +138,7 @@ public final class ModelTest {
             case 0: askClock(); break;
             case 1: case 2: askTime(); break;
             case 3: case 4: case 5: askNotes(); break;
-            case 6: askAgain(); break;
+            case 6: askAgain(); askMeeting(); break;
             case 7: askStopped(); break;
             case 8: case 9: askSetBy(); break;
             case 10: askEgg(); break;
@@ -185,6 +191,32 @@ public final class ModelTest {
             set |= good || any(15) == 0 ? 1 << k : 0;
         }
         int minute = pick(0, any(4320), any(10000000), 9999999, any(20) == 0 ? pick(-1, 10000000) : 36000);
+        same(16, "again(" + set + ", " + minute + ")", x.again(set, minute), model.again(set, minute));
+    }
+
+    /** Clocks that were told so that they meet at a minute, and now and then not quite. */
+    private void askMeeting() {
+        if (any(3) != 0) {
+            return;
+        }
+        same(3, "erase()", x.erase(), model.erase());
+        int meeting = any(10000000);
+        int set = 0;
+        int first = any(4);
+        int common = any(720);
+        StringBuilder text = new StringBuilder();
+        for (int k = first; k < first + 2 + any(3); k++) {
+            int rate = any(241) - 120;
+            int told = meeting % 1440 + 1440 * any(3) % 4320;
+            long days = (meeting - told) / 1440;
+            long dial = Math.floorMod(common - days * rate + (any(20) == 0 ? 1 : 0), 720L);
+            text.append(set == 0 ? "" : ";").append("going ").append(k).append(' ').append(told).append(' ');
+            text.append(dial).append(' ').append(rate + 120).append(' ').append(rate + 120);
+            set |= 1 << k;
+        }
+        say(text.toString());
+        same(5, "house() of \"" + text + "\"", x.house(), model.house());
+        int minute = pick(0, any(10000000), Math.max(0, meeting - any(1036800)), meeting, meeting + 1);
         same(16, "again(" + set + ", " + minute + ")", x.again(set, minute), model.again(set, minute));
     }
 

@@ -208,6 +208,8 @@ public final class TimeTest {
         // of as many the least set, though a greater one has an earlier MINUTE
         Checks.tell(x, "unread;now 0 5;now 1 300");
         liarsDue(x, 1, 1, 300);
+        Checks.tell(x, "unread;now 0 1;now 1 0;now 2 1");
+        liarsDue(x, 1, 2, 1);
         // fewer clocks, though they are a greater number by bits
         Checks.tell(x, "unread;now 0 5;now 1 5;now 2 300");
         liarsDue(x, 1, 4, 5);
@@ -241,6 +243,11 @@ public final class TimeTest {
         nextDue(x, 4, 0);
         Checks.tell(x, "going 1 0 0 0 1;gone 3");
         nextDue(x, 7, 1);
+        Checks.tell(x, "unread;going 0 0 0 120 120;now 4 100;back 7 0 0 0 1");
+        nextDue(x, 0, 6);
+        Checks.tell(x, "unread;now 0 100");
+        nextDue(x, 4, 6);
+        Checks.tell(x, "back 7 0 0 240 240");
         Checks.tell(x, "now 7 0;now 5 0;now 4 0;now 1 0;now 6 0");
         nextDue(x, NONE, NONE);
         for (int bad : new int[] {-1, 2, Integer.MAX_VALUE, Integer.MIN_VALUE}) {

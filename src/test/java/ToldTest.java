@@ -102,6 +102,15 @@ public final class ToldTest {
         Checks.faultDue(x, "unread\0", 6);
         Checks.faultDue(x, "unread unread", 7);
         Checks.faultDue(x, "unread 0", 7);
+        Checks.faultDue(x, "unreadz", 0);
+        Checks.faultDue(x, "aunread", 0);
+        Checks.faultDue(x, "onread", 0);
+        Checks.faultDue(x, "boing 0 1 2 3 4", 0);
+        Checks.faultDue(x, "pack 0 1 2 3 4", 0);
+        Checks.faultDue(x, "atopped 0 1", 0);
+        Checks.faultDue(x, "hone 0", 0);
+        Checks.faultDue(x, "how 0 1", 0);
+        Checks.faultDue(x, "gond 0", 0);
         Checks.faultDue(x, "go", 0);
         Checks.faultDue(x, "goingback 0", 0);
         Checks.faultDue(x, "7", 0);

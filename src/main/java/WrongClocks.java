@@ -908,8 +908,7 @@ public final class WrongClocks {
         }
 
         void weigh() {
-            int all = (1 << many) - 1;
-            for (int set = Math.min(all, SETS - 1); set >= 0; set--) {
+            for (int set = SETS - 1; set >= 0; set--) {
                 int behind = NONE;
                 for (int i = 0; i < many; i++) {
                     if ((set >> i & 1) == 0 && (behind == NONE || leastBehind(set | 1 << i) < behind)) {

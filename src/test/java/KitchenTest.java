@@ -41,6 +41,8 @@ public final class KitchenTest {
         // its minutes are 144 / 145: by 145 of them it would be exact, but 60 beginnings do not reach so far
         eggDue(x, 0, 1, 0, 4, 4, 145);
         eggDue(x, 0, 1, 1, 1, 2, 145);
+        // the beginnings come nearer one by one; a sixty-first would be nearer still
+        eggDue(x, 1, 0, 79, 1, 6, 145);
         // minutes of 12 / 11 and of 12 / 13: lengths of 12 k / 143, nearest to 572 (4 MINUTES) is 576, to 143 is 144
         eggDue(x, 2, 3, 0, 4, 4, 143);
         eggDue(x, 3, 2, 0, 1, 1, 143);

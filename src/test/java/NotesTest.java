@@ -74,6 +74,13 @@ public final class NotesTest {
         x.note(0, 1440, 121);
         x.note(0, 0, 0);
         ratesDue(x, 0, 0, NONE, NONE);
+        // behind 617 MINUTES by 7 a day it is one part short of three minutes ahead: one HAND alone does it
+        for (int order = 0; order < 2; order++) {
+            x.burn();
+            x.note(0, order == 0 ? 0 : 617, order == 0 ? 0 : 619);
+            x.note(0, order == 0 ? 617 : 0, order == 0 ? 619 : 0);
+            ratesDue(x, 0, 5, 123, 127);
+        }
         // over the end of the twelve hours
         x.burn();
         x.note(0, 10, 719);

@@ -69,6 +69,17 @@ final class Checks {
         return x;
     }
 
+    /** Of all DIALS at a MINUTE clock 0 can show those from least to most, and no other; few calls by an object. */
+    static void canOnly(String line, int minute, int least, int most) {
+        for (int from = 0; from < 720; from += 360) {
+            WrongClocks x = told(line);
+            for (int m = from; m < from + 360; m++) {
+                boolean within = m >= least && m <= most || m + 720 >= least && m + 720 <= most;
+                due(8, line + ": can(0, " + minute + ", " + m + ")", x.can(0, minute, m), within ? 1 : 0);
+            }
+        }
+    }
+
     /** Where the fault of a text is, on an object of which some clocks are told; the text is erased again. */
     static void faultDue(WrongClocks x, String text, int want) {
         write(x, text);

@@ -73,37 +73,27 @@ public final class TimeTest {
     }
 
     private static void canBetween() {
-        WrongClocks x = Checks.told("going 0 100 600 110 125;back 1 100 600 110 125;stopped 2 77;going 3 0 0 0 120");
-        canOnly(x, 0, 100, 600, 600);
-        canOnly(x, 0, 1540, 590, 605);
-        canOnly(x, 0, 0, 499, 500);
-        canOnly(x, 1, 1540, 595, 610);
-        canOnly(x, 1, 0, 699, 700);
-        canOnly(x, 2, 9, 77, 77);
+        Checks.canOnly("going 0 100 600 110 125", 100, 600, 600);
+        Checks.canOnly("going 0 100 600 110 125", 1540, 590, 605);
+        Checks.canOnly("going 0 100 600 110 125", 0, 499, 500);
+        Checks.canOnly("back 0 100 600 110 125", 1540, 595, 610);
+        Checks.canOnly("back 0 100 600 110 125", 0, 699, 700);
+        Checks.canOnly("stopped 0 77", 9, 77, 77);
         // by H the HAND stands exactly at 1, at 720: that is shown, too, nothing behind it
-        canOnly(x, 3, 1, 0, 1);
-        canOnly(x, 3, 720, 660, 720);
-    }
-
-    private static void canOnly(WrongClocks x, int k, int minute, int least, int most) {
-        for (int m = 0; m < 720; m++) {
-            int want = m >= least && m <= most || m + 720 <= most ? 1 : 0;
-            Checks.due(8, "can(" + k + ", " + minute + ", " + m + ")", x.can(k, minute, m), want);
-        }
+        Checks.canOnly("going 0 0 0 0 120", 1, 0, 1);
+        Checks.canOnly("going 0 0 0 0 120", 720, 660, 720);
     }
 
     private static void canByEveryRate() {
-        WrongClocks x = Checks.told("going 0 0 0 120 121;going 1 0 0 0 240;back 2 4319 5 0 240");
+        WrongClocks x = Checks.told("going 0 0 0 120 121;going 1 0 0 0 240");
         // by whole rates it shows 719 or 1; 0 by one between them
         Checks.due(8, "shows by L", x.shows(0, 4319, 0), 719);
         Checks.due(8, "shows by H", x.shows(0, 4319, 1), 1);
         Checks.due(8, "can(0, 4319, 0)", x.can(0, 4319, 0), 1);
         Checks.due(8, "can(0, 4319, 2)", x.can(0, 4319, 2), 0);
         Checks.due(8, "can(0, 4319, 718)", x.can(0, 4319, 718), 0);
-        canOnly(x, 1, 4319, 0, 719);
-        canOnly(x, 2, 0, 0, 719);
         // 4312 MINUTES: 3952.67 .. 4671.33, 719 of the 720 and the next
-        canOnly(x, 1, 4312, 0, 719);
+        Checks.canOnly("going 0 0 0 0 240", 4312, 0, 719);
         // 4308 MINUTES: 3949 .. 4667 exactly, one DIAL is left out (3948, 348)
         Checks.due(8, "can(1, 4308, 348)", x.can(1, 4308, 348), 0);
         Checks.due(8, "can(1, 4308, 349)", x.can(1, 4308, 349), 1);

@@ -15,6 +15,12 @@ public final class ToldTest {
         faultsOfNumbers();
         faultsOfTold();
         faultsOfLines();
+        wordsByALetter();
+        faultsAtEachToken();
+        firstOfTwoFaults();
+        blanksAnywhere();
+        signsNextToOthers();
+        unreadTellsNone();
         houses();
         linesInOrder();
         clocks();
@@ -196,6 +202,105 @@ public final class ToldTest {
         Checks.faultDue(x, eight + " ;unread", 56);
         Checks.faultDue(x, eight + " unread", 56);
         Checks.faultDue(x, "unread;gone 9;gone 8", 12);
+    }
+
+    /** A LINE of each word, with its TOKENS apart; 7 is told ahead of it. */
+    private static final String[] LINES = {
+        "going 7 4319 719 240 240", "back 7 4319 719 240 240", "stopped 7 719", "gone 7", "now 7 719", "unread"};
+
+    private static void faultDueBehindTold(String text, int want) {
+        Checks.faultDue(Checks.told("stopped 7 5"), text, want);
+    }
+
+    private static void wordsByALetter() {
+        for (String line : LINES) {
+            String word = line.split(" ")[0];
+            String numbers = line.substring(word.length());
+            faultDueBehindTold(line, NONE);
+            faultDueBehindTold(word.substring(1) + numbers, 0);
+            faultDueBehindTold(word.substring(0, word.length() - 1) + numbers, 0);
+            faultDueBehindTold(word + "s" + numbers, 0);
+            faultDueBehindTold("a" + word + numbers, 0);
+            faultDueBehindTold(word + word + numbers, 0);
+            faultDueBehindTold(word.toUpperCase() + numbers, 0);
+            faultDueBehindTold(word.substring(0, 1) + " " + word.substring(1) + numbers, 0);
+        }
+    }
+
+    /** Behind each TOKEN of a LINE it comes too soon, and no other kind of TOKEN can stand there. */
+    private static void faultsAtEachToken() {
+        for (String line : LINES) {
+            for (int end = line.indexOf(' '); end >= 0; end = line.indexOf(' ', end + 1)) {
+                String ahead = line.substring(0, end);
+                faultDueBehindTold(ahead, end);
+                faultDueBehindTold(ahead + "  ", end + 2);
+                faultDueBehindTold(ahead + ";", end);
+                faultDueBehindTold(ahead + " ;unread", end + 1);
+                faultDueBehindTold(ahead + " unread", end + 1);
+                faultDueBehindTold(ahead + " x" + line.substring(end + 1), end + 1);
+                faultDueBehindTold(ahead + "." + line.substring(end), end);
+                faultDueBehindTold(ahead + " 9999" + line.substring(end), end + 1);
+                faultDueBehindTold(ahead + " 00000" + line.substring(end), end + 1);
+            }
+            faultDueBehindTold(line + " 0", line.length() + 1);
+            faultDueBehindTold(line + " unread", line.length() + 1);
+            faultDueBehindTold(line + "-", line.length());
+            faultDueBehindTold(line + ";", line.length() + 1);
+            faultDueBehindTold(line + ";0", line.length() + 1);
+            faultDueBehindTold(line + ";;", line.length() + 1);
+        }
+        faultDueBehindTold("gone 7a", 6);
+        faultDueBehindTold("gone a7", 5);
+        faultDueBehindTold("7 gone", 0);
+    }
+
+    private static void firstOfTwoFaults() {
+        faultDueBehindTold("gone 8;gone 9", 5);
+        faultDueBehindTold("gone 7;gone 9;gone 8", 12);
+        faultDueBehindTold("going 8 4320 720 241 0", 6);
+        faultDueBehindTold("going 7 4320 720 241 0", 8);
+        faultDueBehindTold("going 7 0 720 241 0", 10);
+        faultDueBehindTold("going 7 0 0 241 0", 12);
+        faultDueBehindTold("now 6 720", 4);
+        faultDueBehindTold("now 6", 4);
+        faultDueBehindTold("now 7 720 ;", 6);
+    }
+
+    private static void blanksAnywhere() {
+        for (String line : LINES) {
+            String wide = "   " + line.replace(" ", "    ") + "  ";
+            faultDueBehindTold(wide, NONE);
+            faultDueBehindTold("unread;" + wide + ";unread", NONE);
+            faultDueBehindTold(line.replaceFirst(" ", ""), NONE);
+            faultDueBehindTold(line.replaceFirst(" ", "") + ";unread", NONE);
+        }
+        // between two numbers there must be one: 71 is one number
+        faultDueBehindTold("stopped 71", 8);
+        faultDueBehindTold("stopped 7 1", NONE);
+        // a blank ends a TOKEN
+        faultDueBehindTold("stop ped 7 1", 0);
+        faultDueBehindTold("stopped 0 7 1", 12);
+    }
+
+    /** The bytes next to a, z, 0, 9, ; and the blank are others; so is each one of 128 and more. */
+    private static void signsNextToOthers() {
+        for (int sign : new int[] {0, 9, 10, 13, 31, 33, 47, 58, 60, 64, 65, 90, 91, 95, 96, 123, 127, 128, 160, 187, 255}) {
+            faultDueBehindTold("unread" + (char) sign + "unread", 6);
+            faultDueBehindTold((char) sign + "gone 7", 0);
+            faultDueBehindTold("gone " + (char) sign, 5);
+            faultDueBehindTold("gone 7 " + (char) sign, 7);
+        }
+    }
+
+    /** An unread LINE names no CLOCK, not even the one that stood in a LINE ahead or in an earlier text. */
+    private static void unreadTellsNone() {
+        WrongClocks x = Checks.told("stopped 5 1");
+        Checks.tell(x, "gone 5");
+        Checks.faultDue(x, "unread;now 5 0", 11);
+        Checks.faultDue(x, "unread;unread;now 5 0", 18);
+        Checks.faultDue(x, "now 5 0", 4);
+        Checks.tell(x, "unread;stopped 5 1;unread;now 5 0");
+        Checks.due(6, "clock(5, 5)", x.clock(5, 5), 0);
     }
 
     private static void houses() {

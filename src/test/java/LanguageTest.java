@@ -7,8 +7,11 @@ import java.lang.reflect.Modifier;
 import java.nio.charset.StandardCharsets;
 import java.nio.file.Files;
 import java.nio.file.Path;
+import java.util.ArrayList;
 import java.util.Arrays;
+import java.util.HashMap;
 import java.util.List;
+import java.util.Map;
 import java.util.Set;
 import java.util.TreeSet;
 import java.util.regex.Matcher;
@@ -44,6 +47,7 @@ public final class LanguageTest {
         words(source);
         methodsAreShort(source);
         rowsAreMadeByConstructors(source);
+        callsGoEightDeep(source);
         Checks.end();
     }
 
@@ -98,7 +102,7 @@ public final class LanguageTest {
     }
 
     private static List<Class<?>> types() {
-        List<Class<?>> types = new java.util.ArrayList<>(List.of(WrongClocks.class.getDeclaredClasses()));
+        List<Class<?>> types = new ArrayList<>(List.of(WrongClocks.class.getDeclaredClasses()));
         types.add(WrongClocks.class);
         return types;
     }
@@ -153,6 +157,53 @@ public final class LanguageTest {
             }
             Checks.holds("sixty lines at most: " + rows[i].trim(), last - i < 60);
         }
+    }
+
+    /** Methods with their classes' names; a call of another object's method may be any of that name in another class. */
+    private static void callsGoEightDeep(String source) {
+        Map<String, List<String>> calls = new HashMap<>();
+        String within = "";
+        String method = "";
+        for (String row : source.split("\n")) {
+            Matcher inner = Pattern.compile(" {4}private static final class (\\w+) \\{").matcher(row);
+            Matcher head = Pattern.compile("( {4}| {8})[A-Za-z][\\w\\[\\] ]* (\\w+)\\(.*\\) \\{").matcher(row);
+            if (inner.matches()) {
+                within = inner.group(1);
+            } else if (head.matches() && !row.matches(" *(if|for|while|switch) .*")) {
+                method = (head.group(1).length() == 4 ? "WrongClocks" : within) + "." + head.group(2);
+                calls.put(method, new ArrayList<>());
+            } else if (calls.containsKey(method)) {
+                Matcher call = Pattern.compile("(\\.?)\\b(\\w+)\\(").matcher(row);
+                while (call.find()) {
+                    calls.get(method).add(call.group(1) + call.group(2));
+                }
+            }
+        }
+        Checks.holds("many methods were found", calls.size() > 60);
+        for (String name : calls.keySet()) {
+            int deep = depth(name, calls, new ArrayList<>());
+            Checks.holds(name + " calls eight deep at most, and never itself: " + deep, deep <= 8);
+        }
+    }
+
+    private static int depth(String method, Map<String, List<String>> calls, List<String> open) {
+        if (open.contains(method)) {
+            return 99;
+        }
+        open.add(method);
+        String own = method.substring(0, method.indexOf('.'));
+        int deepest = 0;
+        for (String call : calls.get(method)) {
+            boolean ofAnother = call.startsWith(".");
+            for (String other : calls.keySet()) {
+                boolean mine = other.startsWith(own + ".") || other.startsWith("WrongClocks.");
+                if (other.endsWith("." + call.replace(".", "")) && ofAnother != mine) {
+                    deepest = Math.max(deepest, depth(other, calls, open));
+                }
+            }
+        }
+        open.remove(method);
+        return 1 + deepest;
     }
 
     /** All calls of a run live in one room: what is made is made with the object, none by a call. */
